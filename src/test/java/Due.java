@@ -1,0 +1,36 @@
+/** Counts the answers of a test that are not the ones that are due, and ends it. */
+final class Due {
+    private static int asked = 0;
+    private static int wrong = 0;
+
+    private Due() {
+    }
+
+    static void is(String call, long want, long got) {
+        asked++;
+        if (got != want) {
+            wrong++;
+            System.out.println(call + " answered " + got + ", due is " + want);
+        }
+    }
+
+    static void yes(String call, boolean got) {
+        is(call, 1, got ? 1 : 0);
+    }
+
+    static void no(String call, boolean got) {
+        is(call, 0, got ? 1 : 0);
+    }
+
+    static boolean allWell() {
+        return wrong == 0;
+    }
+
+    /** A test that asked nothing has gone wrong too. */
+    static void end() {
+        System.out.println(asked + " answers looked at, " + wrong + " wrong");
+        if (wrong > 0 || asked == 0) {
+            System.exit(1);
+        }
+    }
+}
