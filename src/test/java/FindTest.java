@@ -45,6 +45,12 @@ public final class FindTest {
         Due.is("next(4)", 4, x.next(4));
         Due.is("next(5)", EventStore.NONE, x.next(5));
         Due.is("next(MAX)", EventStore.NONE, x.next(Integer.MAX_VALUE));
+        x = new EventStore();
+        Stores.append(x, 0, 0, 5, 6);
+        Due.is("next(-1) begins at 0", 0, x.next(-1));
+        Due.is("next(0)", 0, x.next(0));
+        Due.is("total(0, -1, 0) begins at 0", 5, x.total(0, -1, 0));
+        Due.is("total(0, 0, 1)", 11, x.total(0, 0, 1));
     }
 
     private static void found(String when, EventStore x, int... wants) {

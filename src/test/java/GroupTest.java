@@ -13,6 +13,7 @@ public final class GroupTest {
         promise18Order();
         promise19Group();
         promise6CrashAndGroups();
+        promise6CrashKeepsHowOftenTaken();
         promise7ScavengeAndGroups();
         promise26Take();
         Due.end();
@@ -269,6 +270,29 @@ public final class GroupTest {
         stands("2 was taken three times", x, 0, 5, 0, 3, 2);
         x.crash(0);
         stands("the kept state outlives a crash", x, 0, 4, 0, 3, 2);
+    }
+
+    /** 0, 1 and 2 have been taken three times, twice and once when they are kept, in no order of positions. */
+    private static void promise6CrashKeepsHowOftenTaken() {
+        EventStore x = withEvents(3);
+        takes(x, 0, 0, 1, 2);
+        x.answer(0, 0, false);
+        takes(x, 0, 0);
+        x.answer(0, 1, false);
+        takes(x, 0, 1);
+        x.answer(0, 0, false);
+        takes(x, 0, 0);
+        x.flush();
+        x.crash(0);
+        takes(x, 0, 0, 1, 2);
+        x.answer(0, 0, false);
+        stands("0 is parked", x, 0, 3, 2, 0, 1);
+        x.answer(0, 1, false);
+        stands("1 is parked", x, 0, 3, 1, 0, 2);
+        x.answer(0, 2, false);
+        stands("2 waits", x, 0, 3, 0, 1, 2);
+        x.crash(0);
+        stands("all wait again", x, 0, 3, 0, 3, 2);
     }
 
     private static void promise7ScavengeAndGroups() {

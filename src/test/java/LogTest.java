@@ -11,6 +11,7 @@ public final class LogTest {
         promise5FlushKeepsStates();
         promise6CrashSparesWholeAppends();
         promise6CrashSparesEmittedOnesOneByOne();
+        promise6CrashForgetsLostAppends();
         promise6CrashRestores();
         promise6CrashKeepsWhatWasCutBefore();
         promise7Scavenge();
@@ -222,6 +223,16 @@ public final class LogTest {
         Due.is("the position is the kept one", 0, x.position(2));
         Due.is("work again", 1, x.work(2, 1));
         Due.is("only the lost one is emitted again", 3, x.size(0));
+    }
+
+    private static void promise6CrashForgetsLostAppends() {
+        EventStore x = new EventStore();
+        Stores.append(x, 0, 0, 1, 2, 3, 4);
+        Due.is("all four are lost", 4, x.crash(3));
+        for (int at = 0; at < 4; at++) {
+            Due.is("a cut in their place", at, x.cut(0, 0));
+        }
+        Due.is("cuts are spared one by one", 2, x.crash(2));
     }
 
     private static void promise6CrashRestores() {

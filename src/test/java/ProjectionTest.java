@@ -123,6 +123,7 @@ public final class ProjectionTest {
         check("TYPE as a fifth", faulty + 4, PUSH, 0, VALUE, 0, TYPE, 0, CELL, 0, TYPE, 0);
         check("CELL as a fifth", faulty + 4, PUSH, 0, VALUE, 0, TYPE, 0, CELL, 0, CELL, 0);
         check("DUP as a fifth", faulty + 4, PUSH, 0, VALUE, 0, TYPE, 0, CELL, 0, DUP, 0);
+        check("DUP as a fourth", 0, PUSH, 0, VALUE, 0, TYPE, 0, DUP, 0);
         check("ADD on four", 0, PUSH, 0, VALUE, 0, TYPE, 0, CELL, 0, ADD, 0);
         check("END on four", 0, PUSH, 0, VALUE, 0, TYPE, 0, CELL, 0, END, 0);
     }
@@ -230,6 +231,11 @@ public final class ProjectionTest {
         int[] longest = {PUSH, 1, SET, 0, PUSH, 2, SET, 0, PUSH, 3, SET, 0, PUSH, 4, SET, 0, PUSH, 5, SET, 0,
             PUSH, 6, SET, 0, PUSH, 7, SET, 0};
         Due.is("14 instructions run", 7, cellFor(0, longest));
+        EventStore x = new EventStore();
+        Stores.define(x, 0, PUSH, 1, PUSH, 2, PUSH, 3, VALUE, 0, SET, 0);
+        Stores.append(x, 0, 0, 7, 8, 9);
+        x.work(0, 3);
+        Due.is("each event finds an empty stack", 9, x.cell(0, 0, 0));
     }
 
     private static void promise11Emit() {
