@@ -130,6 +130,16 @@ public final class FindTest {
         x.flush();
         Due.is("size(1) flushed", 7, x.size(1));
         Due.is("size(3): LOW by the group", 5, x.size(3));
+        x = withCut();
+        x.flush();
+        x.code(Stores.END, 0);
+        Due.is("size(3): a draft does not count", 5, x.size(3));
+        x.define(0);
+        Stores.append(x, 0, 0, 1);
+        x.flush();
+        Due.is("size(3): LOW by a program of one instruction", 5, x.size(3));
+        x.drop(0);
+        Due.is("size(3): LOW without it", 6, x.size(3));
     }
 
     private static void promise26Found() {

@@ -293,6 +293,13 @@ public final class GroupTest {
         stands("2 waits", x, 0, 3, 0, 1, 2);
         x.crash(0);
         stands("all wait again", x, 0, 3, 0, 3, 2);
+        x = withEvents(6);
+        takes(x, 0, 0, 1, 2, 3, 4, 5);
+        x.answer(0, 3, false);
+        x.answer(0, 1, false);
+        x.flush();
+        x.crash(0);
+        takes(x, 0, 0, 1, 2, 3, 4, 5, EventStore.FULL);
     }
 
     private static void promise7ScavengeAndGroups() {
@@ -334,5 +341,12 @@ public final class GroupTest {
         stands("no event of its type", x, 1, 4, 0, 0, 0);
         Stores.append(x, 1, 7, 1);
         takes(x, 1, 4);
+        x = withEvents(6);
+        takes(x, 0, 0, 1, 2, 3, 4, 5);
+        Due.is("six are returned", 6, x.tick(10));
+        stands("six wait", x, 0, 6, 0, 6, 0);
+        x.cut(0, 6);
+        takes(x, 0, EventStore.NONE);
+        stands("none of the six waits", x, 0, 7, 0, 0, 0);
     }
 }

@@ -12,6 +12,7 @@ public final class ProjectionTest {
         promise9Heights();
         promise9MeetingHeights();
         promise9GivesANewState();
+        promise9LeavesTheOthers();
         promise10Drop();
         promise11Arithmetic();
         promise11Flow();
@@ -162,6 +163,23 @@ public final class ProjectionTest {
         x.work(0, 9);
         Due.is("it runs the new program", 7, x.cell(0, 0, 1));
         Due.is("and not the old one", 0, x.cell(0, 0, 0));
+    }
+
+    private static void promise9LeavesTheOthers() {
+        EventStore x = new EventStore();
+        Stores.define(x, 0, VALUE, 0, SET, 0);
+        Stores.define(x, 1, VALUE, 0, SET, 0);
+        Stores.define(x, 2, VALUE, 0, SET, 0);
+        Stores.append(x, 0, 0, 7);
+        for (int p = 0; p < 3; p++) {
+            x.work(p, 1);
+        }
+        Due.is("a shorter program over the longer", EventStore.OK, Stores.define(x, 1, PUSH, 9));
+        Due.is("the one before it", 7, x.cell(0, 0, 0));
+        Due.is("the one behind it", 7, x.cell(2, 0, 0));
+        Due.is("their positions", 1, x.position(2));
+        Due.is("work with it", 1, x.work(1, 9));
+        Due.is("nothing of the longer one is left", 0, x.cell(1, 0, 0));
     }
 
     private static void promise10Drop() {
