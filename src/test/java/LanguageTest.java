@@ -1,22 +1,13 @@
-import com.sun.source.tree.AssertTree;
 import com.sun.source.tree.ClassTree;
 import com.sun.source.tree.CompilationUnitTree;
 import com.sun.source.tree.ExpressionTree;
 import com.sun.source.tree.IdentifierTree;
-import com.sun.source.tree.InstanceOfTree;
-import com.sun.source.tree.LambdaExpressionTree;
 import com.sun.source.tree.LineMap;
 import com.sun.source.tree.LiteralTree;
-import com.sun.source.tree.MemberReferenceTree;
-import com.sun.source.tree.MemberSelectTree;
 import com.sun.source.tree.MethodInvocationTree;
 import com.sun.source.tree.MethodTree;
 import com.sun.source.tree.NewArrayTree;
-import com.sun.source.tree.NewClassTree;
-import com.sun.source.tree.SynchronizedTree;
-import com.sun.source.tree.ThrowTree;
 import com.sun.source.tree.Tree;
-import com.sun.source.tree.TryTree;
 import com.sun.source.tree.VariableTree;
 import com.sun.source.util.JavacTask;
 import com.sun.source.util.SourcePositions;
@@ -28,12 +19,14 @@ import java.lang.reflect.Field;
 import java.lang.reflect.Method;
 import java.lang.reflect.Modifier;
 import java.util.Arrays;
+import java.util.EnumSet;
 import java.util.HashMap;
 import java.util.List;
 import java.util.Map;
 import java.util.Set;
 import java.util.TreeSet;
 import javax.tools.JavaCompiler;
+import javax.tools.JavaFileObject;
 import javax.tools.StandardJavaFileManager;
 import javax.tools.ToolProvider;
 
@@ -41,6 +34,9 @@ import javax.tools.ToolProvider;
 public final class LanguageTest extends TreeScanner<Void, Void> {
     private static final File SOURCE = new File("src/main/java/EventStore.java");
     private static final Set<String> TYPES = Set.of("int", "long", "short", "byte", "char", "boolean", "void");
+    private static final Set<Tree.Kind> REFUSED = EnumSet.of(Tree.Kind.THROW, Tree.Kind.TRY, Tree.Kind.SYNCHRONIZED,
+        Tree.Kind.ASSERT, Tree.Kind.INSTANCE_OF, Tree.Kind.LAMBDA_EXPRESSION, Tree.Kind.MEMBER_REFERENCE,
+        Tree.Kind.NEW_CLASS, Tree.Kind.MEMBER_SELECT, Tree.Kind.NULL_LITERAL, Tree.Kind.STRING_LITERAL);
     private static final String FACE = "answer(int,int,boolean)boolean append(int,int)int cell(int,int,int)int"
         + " code(int,int)boolean crash(int)int cut(int,int)int define(int)int drop(int)int event(int,int)boolean"
         + " flush()int form(int,int)int found(int)int group(int,int)int next(int)int note(int)int position(int)int"
@@ -63,7 +59,8 @@ public final class LanguageTest extends TreeScanner<Void, Void> {
         fields();
         JavaCompiler compiler = ToolProvider.getSystemJavaCompiler();
         try (StandardJavaFileManager files = compiler.getStandardFileManager(null, null, null)) {
-            JavacTask task = (JavacTask) compiler.getTask(null, files, null, null, null, files.getJavaFileObjects(SOURCE));
+            Iterable<? extends JavaFileObject> source = files.getJavaFileObjects(SOURCE);
+            JavacTask task = (JavacTask) compiler.getTask(null, files, null, null, null, source);
             for (CompilationUnitTree unit : task.parse()) {
                 new LanguageTest(Trees.instance(task).getSourcePositions(), unit).look();
             }
@@ -134,6 +131,14 @@ public final class LanguageTest extends TreeScanner<Void, Void> {
     }
 
     @Override
+    public Void scan(Tree tree, Void none) {
+        if (tree != null && REFUSED.contains(tree.getKind())) {
+            refuse("rules 2, 3, 4 and 6: " + tree.getKind(), tree);
+        }
+        return super.scan(tree, none);
+    }
+
+    @Override
     public Void visitClass(ClassTree tree, Void none) {
         for (Tree member : tree.getMembers()) {
             if (member.getKind() == Tree.Kind.BLOCK) {
@@ -195,67 +200,5 @@ public final class LanguageTest extends TreeScanner<Void, Void> {
             refuse("rule 4: an array", tree);
         }
         return super.visitNewArray(tree, none);
-    }
-
-    @Override
-    public Void visitLiteral(LiteralTree tree, Void none) {
-        if (tree.getKind() == Tree.Kind.NULL_LITERAL || tree.getKind() == Tree.Kind.STRING_LITERAL) {
-            refuse("rules 2 and 4: a literal", tree);
-        }
-        return super.visitLiteral(tree, none);
-    }
-
-    @Override
-    public Void visitMemberSelect(MemberSelectTree tree, Void none) {
-        refuse("rule 3: something of another class", tree);
-        return super.visitMemberSelect(tree, none);
-    }
-
-    @Override
-    public Void visitNewClass(NewClassTree tree, Void none) {
-        refuse("rule 4: an object", tree);
-        return super.visitNewClass(tree, none);
-    }
-
-    @Override
-    public Void visitThrow(ThrowTree tree, Void none) {
-        refuse("rule 6: throw", tree);
-        return super.visitThrow(tree, none);
-    }
-
-    @Override
-    public Void visitTry(TryTree tree, Void none) {
-        refuse("rule 6: try", tree);
-        return super.visitTry(tree, none);
-    }
-
-    @Override
-    public Void visitSynchronized(SynchronizedTree tree, Void none) {
-        refuse("rule 6: synchronized", tree);
-        return super.visitSynchronized(tree, none);
-    }
-
-    @Override
-    public Void visitAssert(AssertTree tree, Void none) {
-        refuse("rule 6: assert", tree);
-        return super.visitAssert(tree, none);
-    }
-
-    @Override
-    public Void visitInstanceOf(InstanceOfTree tree, Void none) {
-        refuse("rule 6: instanceof", tree);
-        return super.visitInstanceOf(tree, none);
-    }
-
-    @Override
-    public Void visitLambdaExpression(LambdaExpressionTree tree, Void none) {
-        refuse("rule 6: a lambda", tree);
-        return super.visitLambdaExpression(tree, none);
-    }
-
-    @Override
-    public Void visitMemberReference(MemberReferenceTree tree, Void none) {
-        refuse("rule 6: a method reference", tree);
-        return super.visitMemberReference(tree, none);
     }
 }
