@@ -20,7 +20,7 @@ public final class ProjectionTest {
         promise11Work();
         promise11Full();
         promise11OriginsOutliveThePrograms();
-        promise11RemovedOriginsCount();
+        promise11HiddenOriginsCount();
         promise12Note();
         promise13Position();
         promise14Cell();
@@ -341,7 +341,7 @@ public final class ProjectionTest {
         Due.is("value", 98, x.found(3));
     }
 
-    private static void promise11RemovedOriginsCount() {
+    private static void promise11HiddenOriginsCount() {
         EventStore x = new EventStore();
         Stores.define(x, 0, TYPE, 0, ZERO, 3, END, 0, VALUE, 0, EMIT, 9);
         Stores.append(x, 0, 0, 5);
