@@ -130,7 +130,8 @@ public final class CheckedTest {
             Story.tell(sentence + ": " + c,
                 "define(0: PUSH 4, VALUE, EMIT " + c + ", SET 0) -> OK; put(2, 5: -9)",
                 "work(0, 1) -> 1; size(0) -> 2; next(1) -> 1; found(0) -> " + c / 8 + "; found(2) -> " + c % 8,
-                "found(3) -> -9; found(1) -> " + (c / 8 == 2 ? 1 : 0) + "; found(4) -> 0; found(5) -> 0; cell(0, 2, 0) -> 4");
+                "found(3) -> -9; found(1) -> " + (c / 8 == 2 ? 1 : 0) + "; found(4) -> 0; found(5) -> 0",
+                "cell(0, 2, 0) -> 4");
         }
     }
 
@@ -162,7 +163,8 @@ public final class CheckedTest {
     }
 
     private static void argumentsOfJumps() {
-        String sentence = "for ZERO and JUMP not above the instruction's own number or above the number of instructions";
+        String sentence = "for ZERO and JUMP not above the instruction's own number"
+            + " or above the number of instructions";
         for (int length = 3; length <= PROGRAM_MAX; length++) {
             for (int own = 1; own < length; own++) {
                 for (int c : new int[] {MIN, -1, 0, own - 1, own, own + 1, length - 1, length, length + 1, MAX}) {
@@ -179,7 +181,7 @@ public final class CheckedTest {
         }
     }
 
-    /** A program of that length that begins with first and has one instruction at a number, else only ENDs and JUMPs. */
+    /** A program of that length that begins with first and has an instruction at a number, else only JUMPs and ENDs. */
     private static String padded(String first, int own, String instruction, int length) {
         StringBuilder program = new StringBuilder(first);
         for (int i = 1; i < length; i++) {
@@ -245,7 +247,8 @@ public final class CheckedTest {
         checks(sentence + ": 1 or 2 where SET takes 1", "VALUE, DUP, ZERO 4, DUP, SET 0", 4);
         checks(sentence + ": 0 or 1 where it takes none", "VALUE, ZERO 3, VALUE, VALUE", 3);
         checks(sentence + ": where it is the last of 14",
-            "VALUE, ZERO 13, JUMP 3, JUMP 4, JUMP 5, JUMP 6, JUMP 7, JUMP 8, JUMP 9, JUMP 10, JUMP 11, JUMP 12, VALUE, END", 13);
+            "VALUE, ZERO 13, JUMP 3, JUMP 4, JUMP 5, JUMP 6, JUMP 7, JUMP 8, JUMP 9, JUMP 10, JUMP 11, JUMP 12,"
+            + " VALUE, END", 13);
     }
 
     private static void notMet() {
@@ -254,7 +257,8 @@ public final class CheckedTest {
         checks(sentence + ": not for what is above 4", "END, PUSH 1, PUSH 1, PUSH 1, PUSH 1, PUSH 1", -1);
         checks(sentence + ": behind a JUMP", "JUMP 2, ADD, END", -1);
         checks(sentence + ": its c", "JUMP 2, SET 2, END", 1);
-        checks(sentence + ": its c, behind one that would be above 4", "JUMP 6, DUP, PUSH 1, PUSH 1, PUSH 1, EMIT 40, END", 5);
+        checks(sentence + ": its c, behind one that would be above 4",
+            "JUMP 6, DUP, PUSH 1, PUSH 1, PUSH 1, EMIT 40, END", 5);
         String meets = "each instruction that is met and may go on at it";
         checks(meets + ": not the next of one that is not met", "JUMP 3, PUSH 1, PUSH 1, PUSH 1, SET 0", -1);
         checks(meets + ": nor where its JUMP goes", "JUMP 4, PUSH 1, PUSH 1, JUMP 5, PUSH 1, SET 0", -1);

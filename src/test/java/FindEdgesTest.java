@@ -2,8 +2,10 @@
 public final class FindEdgesTest {
     /** 0: s0 t1 10, 1: s0 t1 11, 2: s3 t2 -5, 3: a CUT of stream 0 at 1, 4: s0 t4 12. */
     private static final String LOG = "put(0, 1: 10 11) -> 0; put(3, 2: -5) -> 2; cut(0, 1) -> 3; put(0, 4: 12) -> 4;";
-    private static final String FOUND_NONE = "found(0) -> 0; found(1) -> 0; found(2) -> 0; found(3) -> 0; found(4) -> 0; found(5) -> 0";
-    private static final String FOUND_2 = "found(0) -> 3; found(1) -> 0; found(2) -> 2; found(3) -> -5; found(4) -> -1; found(5) -> -1";
+    private static final String FOUND_NONE =
+        "found(0) -> 0; found(1) -> 0; found(2) -> 0; found(3) -> 0; found(4) -> 0; found(5) -> 0";
+    private static final String FOUND_2 =
+        "found(0) -> 3; found(1) -> 0; found(2) -> 2; found(3) -> -5; found(4) -> -1; found(5) -> -1";
 
     public static void main(String[] args) {
         promise20();
@@ -20,7 +22,8 @@ public final class FindEdgesTest {
     }
 
     private static void promise20() {
-        String sentence = "Finds the EVENT of stream s with this version if it is there and not HIDDEN: its position, else NONE";
+        String sentence = "Finds the EVENT of stream s with this version if it is there and not HIDDEN: its position,"
+            + " else NONE";
         Story.tell(sentence + ": version",
             LOG, "read(0, MIN) -> NONE; read(0, -1) -> NONE; read(0, 0) -> NONE; read(0, 1) -> 1; read(0, 2) -> 4",
             "read(0, 3) -> NONE; read(0, MAX) -> NONE");

@@ -36,7 +36,8 @@ public final class GroupEdgesTest {
 
     private static void promise15Anew() {
         String sentence = "nothing TAKEN, WAITING or PARKED, the cursor at FLUSHED; that is its KEPT state too";
-        String busy = "form(#, 8); fill(4); 3 * take(#); answer(#, 0, false); take(#); answer(#, 0, false); take(#); answer(#, 0, false); answer(#, 1, false);"
+        String busy = "form(#, 8); fill(4); 3 * take(#); answer(#, 0, false); take(#); answer(#, 0, false); take(#);"
+            + "answer(#, 0, false); answer(#, 1, false);"
             + "group(#, 0) -> 3; group(#, 1) -> 1; group(#, 2) -> 1; group(#, 3) -> 1;";
         Story.tellEach(sentence + ": FLUSHED 0", 2,
             busy, "form(#, 8) -> 0; group(#, 0) -> 0; group(#, 1) -> 0; group(#, 2) -> 0; group(#, 3) -> 0",
@@ -87,7 +88,8 @@ public final class GroupEdgesTest {
     }
 
     private static void promise16Waiting() {
-        String sentence = "else the first of the WAITING ones, else the first EVENT of its type at its cursor or behind it";
+        String sentence = "else the first of the WAITING ones, else the first EVENT of its type at its cursor"
+            + " or behind it";
         Story.tell(sentence,
             "form(0, 8); fill(5); 3 * take(0); answer(0, 2, false); answer(0, 0, false); take(0) -> 2",
             "group(0, 0) -> 3; take(0) -> 0; group(0, 0) -> 3; take(0) -> 3; group(0, 0) -> 4");
@@ -125,8 +127,10 @@ public final class GroupEdgesTest {
             for (int other = 7; other >= 0; other--) {
                 story.goOn(sentence, "put(0, " + other + ": 9) -> " + (7 - other));
             }
-            story.goOn(sentence, "take(0) -> " + (7 - t) + "; group(0, 0) -> " + (8 - t) + "; take(0) -> NONE; group(0, 0) -> 8");
-            story.goOn(sentence, "take(1) -> 0; take(1) -> 1; take(1) -> 2; take(1) -> 3; take(1) -> 4; take(1) -> 5; group(1, 0) -> 6");
+            story.goOn(sentence, "take(0) -> " + (7 - t) + "; group(0, 0) -> " + (8 - t));
+            story.goOn(sentence, "take(0) -> NONE; group(0, 0) -> 8");
+            story.goOn(sentence, "take(1) -> 0; take(1) -> 1; take(1) -> 2; take(1) -> 3; take(1) -> 4; take(1) -> 5");
+            story.goOn(sentence, "group(1, 0) -> 6; answer(1, 0, true); take(1) -> 6; take(1) -> FULL");
         }
         Story.tell("the first EVENT of its type: none",
             "form(0, 3); put(0, 2: 1); put(0, 4: 2); cut(0, 0); take(0) -> NONE; group(0, 0) -> 3; group(0, 1) -> 0",
@@ -149,6 +153,9 @@ public final class GroupEdgesTest {
         Story.tell(sentence + ": all of the WAITING ones, then of the log",
             "form(0, 8); fill(4); 2 * take(0); answer(0, 0, false); answer(0, 1, false); cut(0, 3); take(0) -> 3",
             "group(0, 0) -> 4; group(0, 1) -> 1; group(0, 2) -> 0");
+        Story.tell(sentence + ": one behind that which is taken is not passed over yet",
+            "form(0, 8); fill(1); put(1, 0: 9); put(0, 0: 1); 3 * take(0); answer(0, 1, false); answer(0, 0, false)",
+            "cut(0, 1); take(0) -> 1; group(0, 2) -> 1; take(0) -> NONE; group(0, 2) -> 0");
         Story.tell(sentence + ": a TAKEN one stays TAKEN",
             "form(0, 8); fill(2); take(0); cut(0, 2); group(0, 1) -> 1; take(0) -> NONE; group(0, 1) -> 1",
             "answer(0, 0, true) -> true; group(0, 1) -> 0");

@@ -24,7 +24,8 @@ public final class LimitTest {
         int made = 1;
         for (int end = FIRST; end <= LAST; end += ROUND) {
             int emitted = end - made - 1;
-            run.append("work(0, 20); work(0, 17); cut(0, " + (events(made) + emitted) + "); note(0); flush(); scavenge();");
+            run.append("work(0, 20); work(0, 17); cut(0, " + (events(made) + emitted) + ");");
+            run.append("note(0); flush(); scavenge();");
             made = end;
         }
         run.append((records - made) + " * cut(0, 0);");
@@ -107,13 +108,17 @@ public final class LimitTest {
 
     /** What is FULL here leaves all as it was, the draft too. */
     private static void refused() {
-        String looks = "size(0); size(1); size(2); size(3); version(0); version(1); position(0); next(1990); found(3); cut(0, 0); append(1, -2); work(0, 2); flush(); scavenge(); crash(0); append(1, -2); size(0); version(0); version(1)";
-        for (String call : new String[] {"append(1, -2) -> FULL", "cut(0, 0) -> FULL", "work(0, 1) -> FULL", "append(1, 0) -> CONFLICT"}) {
+        String looks = "size(0); size(1); size(2); size(3); version(0); version(1); position(0); next(1990); found(3);"
+            + "cut(0, 0); append(1, -2); work(0, 2); flush(); scavenge(); crash(0); append(1, -2); size(0); version(0);"
+            + "version(1)";
+        String calls = "append(1, -2) -> FULL; append(1, 0) -> CONFLICT; cut(0, 0) -> FULL; work(0, 1) -> FULL";
+        for (String call : calls.split(";")) {
             Story one = new Story();
             Story other = new Story();
             one.goOn(SENTENCE, grown(2000) + "event(1, 1)");
             other.goOn(SENTENCE, grown(2000) + "event(1, 1);" + call);
-            Due.yes(SENTENCE + ": " + call + " changes nothing", one.goOn(SENTENCE, looks).equals(other.goOn(SENTENCE, looks)));
+            boolean alike = one.goOn(SENTENCE, looks).equals(other.goOn(SENTENCE, looks));
+            Due.yes(SENTENCE + ": " + call + " changes nothing", alike);
         }
     }
 }

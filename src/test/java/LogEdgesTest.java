@@ -240,9 +240,11 @@ public final class LogEdgesTest {
         for (int k = 0; k <= 5; k++) {
             int stay = Math.min(k, 4);
             Story.tell(sentence + ": " + k + " of 4",
-                "put(0, 0: 1 2); flush(); put(0, 0: 3); cut(0, 0); put(1, 0: 4); cut(0, 1); crash(" + k + ") -> " + (4 - stay),
-                "size(0) -> " + (2 + stay) + "; size(1) -> " + (2 + stay) + "; size(2) -> " + (2 + stay) + "; version(0) -> " + (stay > 0 ? 3 : 2),
-                "version(1) -> " + (stay > 2 ? 1 : 0) + "; next(0) -> " + (stay > 3 ? 1 : 0) + "; crash(0) -> 0; size(0) -> " + (2 + stay));
+                "put(0, 0: 1 2); flush(); put(0, 0: 3); cut(0, 0); put(1, 0: 4); cut(0, 1)",
+                "crash(" + k + ") -> " + (4 - stay) + "; size(0) -> " + (2 + stay) + "; size(1) -> " + (2 + stay),
+                "size(2) -> " + (2 + stay),
+                "version(0) -> " + (stay > 0 ? 3 : 2) + "; version(1) -> " + (stay > 2 ? 1 : 0),
+                "next(0) -> " + (stay > 3 ? 1 : 0) + "; crash(0) -> 0; size(0) -> " + (2 + stay));
         }
         Story.tell(sentence + ": far more than there are",
             "put(0, 0: 1); flush(); put(0, 0: 2); crash(MAX) -> 0; size(0) -> 2; size(1) -> 2");
@@ -286,7 +288,14 @@ public final class LogEdgesTest {
             "crash(2) -> 1; version(1) -> 2; crash(0) -> 0");
         Story.tell(sentence + ": nor those behind an append",
             "define(0: VALUE, EMIT 8); put(0, 0: 1 2); work(0, 2); size(0) -> 4; crash(3) -> 1; version(1) -> 1");
-        Story.tell(sentence + ": in place of lost ones",
+        for (int k = 0; k <= 4; k++) {
+            Story.tell(sentence + ": " + k + " CUTS in place of lost ones",
+                "put(0, 0: 1 2 3 4); crash(3) -> 4; 4 * cut(0, 0); crash(" + k + ") -> " + (4 - k));
+            Story.tell(sentence + ": " + k + " emitted ones in place of lost ones",
+                "define(0: VALUE, DUP, DUP, DUP, EMIT 8, EMIT 8, EMIT 8, EMIT 8); put(0, 0: 1); flush()",
+                "put(1, 0: 1 2 3 4); crash(3) -> 4; work(0, 1) -> 1; size(0) -> 5; crash(" + k + ") -> " + (4 - k));
+        }
+        Story.tell(sentence + ": others in place of lost ones",
             "put(0, 0: 1 2 3 4); crash(3) -> 4; put(0, 0: 1); put(0, 0: 2); cut(0, 0); put(0, 0: 3)",
             "crash(3) -> 1; size(0) -> 3; version(0) -> 2");
     }
@@ -354,6 +363,19 @@ public final class LogEdgesTest {
             "group(0, 3) -> 1; crash(0); take(0) -> 0; take(0) -> 1; take(0) -> 2; group(0, 3) -> 1",
             "answer(0, 0, false); group(0, 3) -> 1; answer(0, 1, false); group(0, 3) -> 2; answer(0, 2, false)",
             "group(0, 3) -> 3; group(0, 2) -> 1");
+        Story.tell("taken as often as there: in whatever order they were taken",
+            "form(0, 8); fill(3); 3 * take(0); answer(0, 0, false); take(0) -> 0; answer(0, 1, false); take(0) -> 1",
+            "answer(0, 1, false); take(0) -> 1; flush(); crash(0); take(0) -> 0; take(0) -> 1; take(0) -> 2",
+            "answer(0, 0, false); group(0, 3) -> 1; answer(0, 1, false); group(0, 3) -> 2; answer(0, 2, false)",
+            "group(0, 3) -> 2; group(0, 2) -> 1");
+        Story.tell("taken as often as there: twice each, the last one first",
+            "form(0, 8); fill(3); 3 * take(0); answer(0, 2, false); take(0) -> 2; answer(0, 0, false); take(0) -> 0",
+            "answer(0, 1, false); take(0) -> 1; flush(); crash(0); 3 * take(0); group(0, 3) -> 0; answer(0, 0, false)",
+            "group(0, 3) -> 1; answer(0, 1, false); group(0, 3) -> 2; answer(0, 2, false); group(0, 3) -> 3");
+        Story.tell(sentence + ": six were TAKEN", "form(0, 8); fill(7); flush(); 6 * take(0); crash(0)",
+            "group(0, 1) -> 0; group(0, 2) -> 0; group(0, 0) -> 0; take(0) -> 0; group(0, 1) -> 1; tick(10) -> 1");
+        Story.tell(sentence + ": six were TAKEN and KEPT", "form(0, 8); fill(7); 6 * take(0); flush(); crash(0)",
+            "group(0, 1) -> 0; group(0, 2) -> 6; take(0) -> 0; group(0, 1) -> 1; group(0, 2) -> 5; tick(10) -> 1");
         Story.tell("TIME goes on",
             "form(0, 8); fill(2); tick(7); crash(99); take(0) -> 0; tick(9) -> 0; tick(1) -> 1");
         Story.tell("TIME goes on: a crash takes no time",

@@ -83,12 +83,14 @@ public final class ProjectionEdgesTest {
         String sentence = "FAULTY + the number of the faulty instruction (the projection stays as it was)";
         Story.tell(sentence + ": the first, the last of 14",
             "define(0: SET 0) -> FAULTY+0",
-            "define(0: JUMP 1, JUMP 2, JUMP 3, JUMP 4, JUMP 5, JUMP 6, JUMP 7, JUMP 8, JUMP 9, JUMP 10, JUMP 11, JUMP 12, JUMP 13, SET 0) -> FAULTY+13");
+            "define(0: JUMP 1, JUMP 2, JUMP 3, JUMP 4, JUMP 5, JUMP 6, JUMP 7, JUMP 8, JUMP 9, JUMP 10, JUMP 11,"
+            + " JUMP 12, JUMP 13, SET 0) -> FAULTY+13");
         Story.tell(sentence + ": its program, position and cells",
             "define(0: " + SUM + ") -> OK; put(3, 0: 5 6 7); work(0, 1); define(0: VALUE, SET 1, SET 1) -> FAULTY+2",
             "position(0) -> 1; cell(0, 3, 0) -> 5; work(0, 1) -> 1; cell(0, 3, 0) -> 11; cell(0, 3, 1) -> 0");
         Story.tell(sentence + ": its KEPT and NOTED state",
-            "define(0: " + SUM + "); put(3, 0: 5 6 7); work(0, 1); note(0); flush(); work(0, 1); note(0); define(0: SET 0) -> FAULTY+0",
+            "define(0: " + SUM + "); put(3, 0: 5 6 7); work(0, 1); note(0); flush(); work(0, 1)",
+            "note(0); define(0: SET 0) -> FAULTY+0",
             "size(3) -> 1; flush(); size(3) -> 2; work(0, 1); define(0: ADD) -> FAULTY+0; crash(0)",
             "position(0) -> 2; cell(0, 3, 0) -> 11");
         Story.tell(sentence + ": one without a program has still none",
@@ -106,8 +108,27 @@ public final class ProjectionEdgesTest {
             "define(0: PUSH 1, SET 0); define(1: PUSH 2, SET 0); define(2: PUSH 3, SET 0); put(0, 0: 1)",
             "define(1: PUSH 9, SET 0)", "work(0, 1); work(1, 1); work(2, 1); cell(0, 0, 0) -> 1; cell(1, 0, 0) -> 9",
             "cell(2, 0, 0) -> 3");
+        String others = "define(0: PUSH 1, DUP, SET 0, SET 1); define(1: PUSH 2, DUP, SET 0, SET 1);"
+            + "define(2: PUSH 3, DUP, SET 0, SET 1); put(0, 0: 1); put(4, 0: 1); work(0, 1); work(1, 1); work(2, 1);"
+            + "note(0); note(1); note(2); flush(); work(0, 1); work(1, 1); work(2, 1);";
+        String look = "position(#) -> 2; cell(#, 0, 0) -> $; cell(#, 0, 1) -> $; cell(#, 4, 0) -> $;"
+            + "cell(#, 4, 1) -> $; crash(0); position(#) -> 1; cell(#, 0, 0) -> $; cell(#, 0, 1) -> $;"
+            + "cell(#, 4, 0) -> 0; cell(#, 4, 1) -> 0";
+        for (int p = 0; p < 3; p++) {
+            for (int other = 0; other < 3; other++) {
+                if (p != other) {
+                    Story.tell(sentence + ": " + other + " stays as it was where " + p + " gets one", others,
+                        "define(" + p + ": END) -> OK", look.replace("#", "" + other).replace("$", "" + (other + 1)));
+                }
+            }
+        }
+        Story.tell(sentence + ": what another program NOTED is gone",
+            "define(0: " + SUM + "); put(0, 0: 5 6); work(0, 2)",
+            "note(0) -> 2; define(0: " + SUM + ") -> OK; flush(); size(3) -> 0; crash(0); position(0) -> 0",
+            "cell(0, 0, 0) -> 0; work(0, 1) -> 1; cell(0, 0, 0) -> 5");
         Story.tell(sentence + ": in place of the one it had, at FLUSHED",
-            "define(0: " + SUM + "); put(0, 0: 5 6); work(0, 2); flush(); put(0, 0: 7); define(0: " + SUM + ") -> OK; position(0) -> 2",
+            "define(0: " + SUM + "); put(0, 0: 5 6); work(0, 2); flush(); put(0, 0: 7)",
+            "define(0: " + SUM + ") -> OK; position(0) -> 2",
             "cell(0, 0, 0) -> 0; work(0, 9) -> 1; cell(0, 0, 0) -> 7");
     }
 
@@ -119,7 +140,8 @@ public final class ProjectionEdgesTest {
             "drop(#) -> NONE; define(#: END); drop(#) -> OK; drop(#) -> NONE; position(#) -> NONE",
             "define(#: END) -> OK; drop(#) -> OK");
         Story.tell("Projection p has no program any more",
-            "define(0: " + SUM + "); define(1: " + SUM + "); put(0, 0: 5); work(0, 1); work(1, 1); drop(0) -> OK; position(0) -> NONE",
+            "define(0: " + SUM + "); define(1: " + SUM + "); put(0, 0: 5); work(0, 1); work(1, 1)",
+            "drop(0) -> OK; position(0) -> NONE",
             "cell(0, 0, 0) -> 0; work(0, 1) -> NONE; note(0) -> NONE; position(1) -> 1; cell(1, 0, 0) -> 5");
         Story.tell("Projection p has no program any more: behind a crash and a flush too",
             "define(0: END); put(0, 0: 5); work(0, 1); note(0); flush(); drop(0); crash(0); position(0) -> NONE",
@@ -184,7 +206,8 @@ public final class ProjectionEdgesTest {
             "define(0: VALUE, PUSH 1, ADD, EMIT 0) -> OK; put(0, 0: 5); work(0, 20) -> 20; size(0) -> 21",
             "position(0) -> 20; next(20) -> 20; found(3) -> 25");
         Story.tell(sentence + ": those too that another one emits",
-            "define(0: VALUE, EMIT 8); define(1: " + SUM + "); put(0, 0: 5); work(0, 1); work(1, 20) -> 2; cell(1, 1, 0) -> 5");
+            "define(0: VALUE, EMIT 8); define(1: " + SUM + "); put(0, 0: 5); work(0, 1)",
+            "work(1, 20) -> 2; cell(1, 1, 0) -> 5");
     }
 
     private static void promise11Full() {
@@ -200,7 +223,8 @@ public final class ProjectionEdgesTest {
         Story.tell(sentence + ": n ends it before",
             emits, "fill(39); work(0, 1) -> 1; work(0, 1) -> FULL; position(0) -> 1");
         Story.tell(sentence + ": not where nothing is emitted",
-            "define(0: " + SUM + "); fill(40); work(0, 20) -> 20; work(0, 20) -> 20; work(0, 20) -> 0; position(0) -> 40");
+            "define(0: " + SUM + "); fill(40); work(0, 20) -> 20; work(0, 20) -> 20",
+            "work(0, 20) -> 0; position(0) -> 40");
         Story.tell(sentence + ": not for a CUT or an event that emits nothing",
             "define(0: TYPE, ZERO 4, VALUE, EMIT 8) -> OK; cut(0, 0); put(0, 0: 1); put(0, 1: 2); fill(37)",
             "size(2) -> 40", "work(0, 20) -> FULL; position(0) -> 2; work(0, 1) -> FULL; position(0) -> 2",
@@ -220,7 +244,8 @@ public final class ProjectionEdgesTest {
             "define(0: " + SUM + "); put(1, 0: 5 6 7); work(0, 1); note(0); work(0, 2); flush(); crash(0)",
             "position(0) -> 1; cell(0, 1, 0) -> 5");
         Story.tell("The state of projection p as it is now is NOTED: the last one counts",
-            "define(0: " + SUM + "); put(1, 0: 5 6 7); work(0, 1); note(0); work(0, 1); note(0); work(0, 1); flush(); crash(0)",
+            "define(0: " + SUM + "); put(1, 0: 5 6 7); work(0, 1); note(0); work(0, 1); note(0)",
+            "work(0, 1); flush(); crash(0)",
             "position(0) -> 2; cell(0, 1, 0) -> 11");
         Story.tell("The state of projection p as it is now is NOTED: nothing is KEPT before a flush",
             "define(0: " + SUM + "); put(1, 0: 5); flush(); work(0, 1); note(0) -> 1; size(3) -> 0",
@@ -250,7 +275,8 @@ public final class ProjectionEdgesTest {
 
     private static void promise14() {
         String sentence = "0 if an argument is outside or it has no program";
-        String all = "define(#: VALUE, SET 0, VALUE, SET 1); put(0, 0: 10); put(1, 0: 11); put(2, 0: 12); put(3, 0: 13); put(4, 0: 14); work(#, 5) -> 5";
+        String all = "define(#: VALUE, SET 0, VALUE, SET 1); put(0, 0: 10); put(1, 0: 11); put(2, 0: 12);"
+            + "put(3, 0: 13); put(4, 0: 14); work(#, 5) -> 5";
         Story.tellEach(sentence, 3,
             "cell(#, 0, 0) -> 0; cell(#, 4, 1) -> 0", all, "cell(#, 0, 0) -> 10; cell(#, 0, 1) -> 10",
             "cell(#, 1, 0) -> 11; cell(#, 2, 0) -> 12; cell(#, 3, 1) -> 13; cell(#, 4, 0) -> 14",

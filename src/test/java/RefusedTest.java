@@ -7,24 +7,44 @@ import java.util.List;
  */
 public final class RefusedTest {
     /** Flushed and unflushed records, a KEPT and a NOTED state, and a group with TAKEN, WAITING and PARKED events. */
-    private static final String BASE = "put(0, 1: 10 11 12); put(1, 2: 20); cut(0, 1); flush(); scavenge(); form(0, 8); tick(4);"
-        + "define(0: CELL 0, VALUE, ADD, DUP, SET 0, EMIT 24); define(1: CELL 1, PUSH 1, ADD, SET 1);"
+    private static final String BASE = "put(0, 1: 10 11 12); put(1, 2: 20); cut(0, 1); flush(); scavenge(); form(0, 8);"
+        + "tick(4); define(0: CELL 0, VALUE, ADD, DUP, SET 0, EMIT 24); define(1: CELL 1, PUSH 1, ADD, SET 1);"
         + "put(2, 3: 30 31); put(0, 1: 13); put(4, 7: 40 41); 4 * take(0); answer(0, 6, false); take(0);"
-        + "answer(0, 6, false); take(0); answer(0, 6, false); answer(0, 7, false); work(0, 2); note(0); flush(); tick(2);"
-        + "put(3, 0: 50 51); cut(2, 1); put(0, 5: 14); take(0); take(0); answer(0, 7, false); work(0, 1); work(1, 4); note(1);"
-        + "work(1, 1); next(8); tick(1);";
+        + "answer(0, 6, false); take(0); answer(0, 6, false); answer(0, 7, false); work(0, 2); note(0); flush();"
+        + "tick(2); put(3, 0: 50 51); cut(2, 1); put(0, 5: 14); take(0); take(0); answer(0, 7, false); work(0, 1);"
+        + "work(1, 4); note(1); work(1, 1); next(8); tick(1);";
     private static final String DRAFTS = "event(1, 61); event(2, 62); code(PUSH, 3); code(SET, 0);";
-    private static final String FULL_DRAFTS = "4 * event(6, 63); 7 * code(PUSH, 4); 7 * code(SET, 1);";
+    private static final String FULL_DRAFTS = "4 * event(6, 63);" + "code(PUSH, 4); code(SET, 1);".repeat(7);
+    /** What is refused in every state of these tests, and the looks, which never change anything. */
+    private static final String ALWAYS = """
+        event(-1, 7) -> false; event(8, 7) -> false; append(-1, -2) -> BAD; append(5, -2) -> BAD
+        cut(-1, 0) -> BAD; cut(5, 0) -> BAD; cut(0, -1) -> BAD; cut(0, 40) -> BAD; crash(-1) -> BAD
+        crash(MIN) -> BAD; code(-1, 0) -> false; code(14, 0) -> false; define(-1) -> BAD; define(3) -> BAD
+        drop(-1) -> BAD; drop(3) -> BAD; work(-1, 1) -> BAD; work(3, 1) -> BAD; work(0, 0) -> BAD
+        work(1, 21) -> BAD; work(2, 1) -> NONE; note(-1) -> BAD; note(3) -> BAD; note(2) -> NONE
+        drop(2) -> NONE; position(-1) -> BAD; position(3) -> BAD; position(2) -> NONE; position(0)
+        cell(3, 0, 0) -> 0; cell(0, 5, 0) -> 0; cell(0, 0, 2) -> 0; cell(0, 0, 0); form(-1, 0) -> BAD
+        form(2, 0) -> BAD; form(0, -1) -> BAD; form(0, 9) -> BAD; form(1, 9) -> BAD; take(-1) -> BAD
+        take(2) -> BAD; take(1) -> NONE; answer(-1, 5, true) -> false; answer(2, 5, false) -> false
+        answer(1, 5, true) -> false; answer(0, -1, false) -> false; answer(0, 40, true) -> false
+        tick(-1) -> BAD; tick(101) -> BAD; tick(0) -> 0; group(-1, 0) -> BAD; group(2, 0) -> BAD
+        group(1, 0) -> BAD; group(0, 4) -> BAD; group(0, -1) -> BAD; group(0, 0); read(0, -1) -> NONE
+        read(0, 40) -> NONE; read(5, 0) -> NONE; read(-1, 0) -> NONE; read(0, 0) -> NONE; next(40) -> NONE
+        next(MAX) -> NONE; found(-1) -> 0; found(6) -> 0; found(3); total(-1, 0, 99) -> 0; total(9, 0, 99) -> 0
+        total(8, 0, 99); version(-1) -> BAD; version(5) -> BAD; version(0); size(-1) -> BAD; size(4) -> BAD
+        size(0); size(3)
+        """;
     private static final String LOOK = looks();
     private static final String WALK = walk();
 
     private static int twins = 0;
 
     public static void main(String[] args) {
-        always("a new object", "", "");
-        always("a busy one", BASE, DRAFTS);
-        always("one with full drafts", BASE, FULL_DRAFTS);
-        always("one with empty drafts", BASE, "");
+        theBaseIsBusy();
+        always("a new object", "");
+        always("a busy one", BASE + DRAFTS);
+        always("one with full drafts", BASE + FULL_DRAFTS);
+        always("one with empty drafts", BASE);
         events();
         appends();
         cuts();
@@ -38,6 +58,13 @@ public final class RefusedTest {
         nothingToDo();
         Due.yes("there were twins: " + twins, twins > 100);
         Due.end();
+    }
+
+    private static void theBaseIsBusy() {
+        Story.tell("the state of these tests", BASE, "size(0) -> 17; size(1) -> 12; size(2) -> 15; size(3) -> 5",
+            "position(0) -> 8; position(1) -> 10; group(0, 0) -> 10; group(0, 1) -> 3; group(0, 2) -> 1",
+            "group(0, 3) -> 1",
+            "found(3) -> 40; crash(99) -> 0; position(0) -> 7; position(1) -> 5; group(0, 0) -> 9; group(0, 2) -> 3");
     }
 
     private static String looks() {
@@ -77,9 +104,11 @@ public final class RefusedTest {
         probes.add("flush();" + LOOK + "crash(0);" + LOOK + "7 * take(0); scavenge();" + LOOK);
         probes.add("note(0); note(1); note(2); flush(); crash(0);" + LOOK);
         probes.add("work(0, 20); work(1, 20); work(2, 20);" + LOOK + WALK);
-        probes.add("7 * take(0); 7 * take(1);" + "tick(1);".repeat(12) + "7 * take(0); tick(10); 7 * take(0); tick(10);" + LOOK);
+        probes.add("7 * take(0); 7 * take(1);" + "tick(1);".repeat(12) + "7 * take(0); tick(10); 7 * take(0); tick(10);"
+            + LOOK);
         probes.add("tick(1);".repeat(12) + LOOK + "7 * take(0);");
-        probes.add("answer(0, 5, true); answer(0, 8, false); answer(0, 9, false); answer(0, 6, false);" + LOOK + "7 * take(0)");
+        probes.add("answer(0, 5, true); answer(0, 8, false); answer(0, 9, false); answer(0, 6, false);" + LOOK
+            + "7 * take(0)");
         probes.add("form(1, 8); 7 * take(1); tick(9); tick(1);" + LOOK);
         probes.add("form(0, 1); 7 * take(0); crash(0);" + LOOK);
         probes.add("scavenge();" + LOOK + "flush(); scavenge();" + LOOK + "12 * cut(0, 0)");
@@ -88,7 +117,7 @@ public final class RefusedTest {
         return probes;
     }
 
-    /** The calls behind a state must answer alike with and without the refused call, which has the answer that is due. */
+    /** What is called behind a state must answer alike with and without the refused call. */
     private static void refused(String when, String state, String call) {
         same(when + ": " + call, state, state + ";" + call);
     }
@@ -109,24 +138,9 @@ public final class RefusedTest {
         }
     }
 
-    /** What is refused in every state, and the looks, which never change anything. */
-    private static void always(String when, String base, String drafts) {
-        String[] calls = {"event(-1, 7) -> false", "event(8, 7) -> false", "append(-1, -2) -> BAD", "append(5, -2) -> BAD",
-            "cut(-1, 0) -> BAD", "cut(5, 0) -> BAD", "cut(0, -1) -> BAD", "cut(0, 40) -> BAD", "crash(-1) -> BAD", "crash(MIN) -> BAD",
-            "code(-1, 0) -> false", "code(14, 0) -> false", "define(-1) -> BAD", "define(3) -> BAD", "drop(-1) -> BAD", "drop(3) -> BAD",
-            "work(-1, 1) -> BAD", "work(3, 1) -> BAD", "work(0, 0) -> BAD", "work(1, 21) -> BAD", "work(2, 1) -> NONE", "note(-1) -> BAD",
-            "note(3) -> BAD", "note(2) -> NONE", "drop(2) -> NONE", "position(-1) -> BAD", "position(3) -> BAD", "position(2) -> NONE",
-            "position(0)", "cell(3, 0, 0) -> 0", "cell(0, 5, 0) -> 0", "cell(0, 0, 2) -> 0", "cell(0, 0, 0)", "form(-1, 0) -> BAD",
-            "form(2, 0) -> BAD", "form(0, -1) -> BAD", "form(0, 9) -> BAD", "form(1, 9) -> BAD", "take(-1) -> BAD", "take(2) -> BAD",
-            "take(1) -> NONE", "answer(-1, 5, true) -> false", "answer(2, 5, false) -> false", "answer(1, 5, true) -> false",
-            "answer(0, -1, false) -> false", "answer(0, 40, true) -> false", "tick(-1) -> BAD", "tick(101) -> BAD", "tick(0) -> 0",
-            "group(-1, 0) -> BAD", "group(2, 0) -> BAD", "group(1, 0) -> BAD", "group(0, 4) -> BAD", "group(0, -1) -> BAD", "group(0, 0)",
-            "read(0, -1) -> NONE", "read(0, 40) -> NONE", "read(5, 0) -> NONE", "read(-1, 0) -> NONE", "read(0, 0) -> NONE",
-            "next(40) -> NONE", "next(MAX) -> NONE", "found(-1) -> 0", "found(6) -> 0", "found(3)", "total(-1, 0, 99) -> 0",
-            "total(9, 0, 99) -> 0", "total(8, 0, 99)", "version(-1) -> BAD", "version(5) -> BAD", "version(0)", "size(-1) -> BAD",
-            "size(4) -> BAD", "size(0)", "size(3)"};
-        for (String call : calls) {
-            refused(when, base + drafts, call);
+    private static void always(String when, String state) {
+        for (String call : ALWAYS.split("[;\n]")) {
+            refused(when, state, call.strip());
         }
     }
 
@@ -153,7 +167,8 @@ public final class RefusedTest {
         refused("append without room", none, "append(0, 3) -> CONFLICT");
         refused("append without room", none, "append(5, 3) -> BAD");
         refused("append with room for one", room + DRAFTS, "append(0, -2) -> FULL");
-        refused("append with room for three", BASE + "put(1, 0: 1 2);" + "put(1, 0: 1 2 3 4);".repeat(5) + FULL_DRAFTS, "append(4, -2) -> FULL");
+        String three = BASE + "put(1, 0: 1 2);" + "put(1, 0: 1 2 3 4);".repeat(5) + "size(2) -> 37;";
+        refused("append with room for three", three + FULL_DRAFTS, "append(4, -2) -> FULL");
     }
 
     private static void cuts() {

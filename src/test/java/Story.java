@@ -147,7 +147,8 @@ final class Story {
         Object[] arguments = new Object[words.length];
         for (int i = 0; i < words.length; i++) {
             long value = number(words[i].strip());
-            arguments[i] = method.getParameterTypes()[i] == boolean.class ? (Object) (value == 1) : (Object) (int) value;
+            boolean isFlag = method.getParameterTypes()[i] == boolean.class;
+            arguments[i] = isFlag ? (Object) (value == 1) : (Object) (int) value;
         }
         steps.add(new Step(name + "(" + inside + ")", method, arguments, want));
     }

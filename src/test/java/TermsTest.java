@@ -224,6 +224,14 @@ public final class TermsTest {
             "define(0: CELL 0, VALUE, ADD, SET 0, CELL 0, EMIT 8) -> OK; put(2, 0: 5 6 7); fill(35)",
             "work(0, 20) -> FULL", "position(0) -> 2; cell(0, 2, 0) -> 11; size(0) -> 40; read(1, 1) -> 39",
             "found(3) -> 11");
+        Story.tell(sentence + ": both cells have what they had",
+            "define(0: VALUE, SET 0, TYPE, SET 1, TYPE, ZERO 8, VALUE, EMIT 33) -> OK; put(1, 0: 70); put(1, 6: 71)",
+            "work(0, 1) -> 1; define(1: END); fill(38); work(0, 1) -> FULL; cell(0, 1, 0) -> 70; cell(0, 1, 1) -> 0");
+        Story.tell(sentence + ": both cells have what they had",
+            "define(0: PUSH 5, SET 0, PUSH 6, SET 1, VALUE, EMIT 8) -> OK; put(3, 0: 1); work(0, 1) -> 1",
+            "put(3, 0: 1)", "define(1: VALUE, SET 0, VALUE, PUSH 1, ADD, SET 1, TYPE, ZERO 10, VALUE, EMIT 8) -> OK",
+            "put(3, 7: 9); fill(36)", "work(1, 3) -> 3; cell(1, 3, 0) -> 1; cell(1, 3, 1) -> 2; work(1, 1) -> FULL",
+            "cell(1, 3, 0) -> 1", "cell(1, 3, 1) -> 2; position(1) -> 3");
         Story.tell(sentence + ": the other projections and the KEPT and NOTED states too",
             "define(1: PUSH 9, SET 1) -> OK", program, "fill(38); work(1, 1); note(0) -> 0; work(0, 1) -> FULL",
             "position(1) -> 1", "cell(1, 1, 1) -> 9; flush(); crash(0); position(0) -> 0; cell(0, 1, 0) -> 0",
@@ -252,7 +260,8 @@ public final class TermsTest {
     }
 
     private static void returned() {
-        String sentence = "if it was taken 3 times or more it is PARKED, else it goes to the end of the row of WAITING ones";
+        String sentence = "if it was taken 3 times or more it is PARKED, else it goes to the end of the row"
+            + " of WAITING ones";
         String again = "take(0) -> 0; answer(0, 0, false) -> true;";
         Story.tell(sentence + ": once", "form(0, 8); put(0, 0: 1)", again, "group(0, 2) -> 1; group(0, 3) -> 0");
         Story.tell(sentence + ": twice",
@@ -292,6 +301,8 @@ public final class TermsTest {
             "note(#) -> 2; size(3) -> 1; flush(); size(3) -> 2; work(#, 1); note(#); crash(0); size(3) -> 2",
             "work(#, 1); note(#) -> 3; flush(); size(3) -> 3; put(0, 0: 4); flush(); size(3) -> 3; drop(#)",
             "size(3) -> 4");
+        Story.tell("the KEPT positions of all projections that have programs: a draft is none",
+            "put(0, 0: 1); flush(); code(END, 0); size(3) -> 1; define(0) -> OK; put(0, 0: 2); flush(); size(3) -> 1");
         Story.tell("LOW is the least: of three projections and two groups",
             "put(0, 0: 1); flush(); define(1: END); put(0, 0: 2); flush(); form(1, 8); put(0, 0: 3); flush()",
             "define(0: END)", "put(0, 0: 4); flush(); form(0, 8); put(0, 0: 5); flush(); define(2: END)",
