@@ -6,6 +6,7 @@ public final class TermsTest {
         positionsAndVersions();
         hidden();
         removed();
+        flushedAtFirst();
         atMost40();
         programLength();
         projectionIsGivenItsProgram();
@@ -17,6 +18,7 @@ public final class TermsTest {
         time();
         low();
         lowOfGroups();
+        orderOfTests();
         Due.end();
     }
 
@@ -94,6 +96,14 @@ public final class TermsTest {
             "read(0, 1) -> NONE; read(0, 2) -> 2; scavenge() -> 0; size(2) -> 1");
     }
 
+    private static void flushedAtFirst() {
+        String sentence = "FLUSHED is a number of records, at first 0";
+        Story.tell(sentence, "size(1) -> 0; form(0, 8) -> 0; define(0: END) -> OK; position(0) -> 0; size(3) -> 0");
+        Story.tell(sentence + ": until something is flushed",
+            "fill(5); size(1) -> 0; form(0, 8) -> 0; define(0: END) -> OK", "position(0) -> 0; size(3) -> 0",
+            "scavenge() -> 0; crash(0) -> 5; size(0) -> 0; size(1) -> 0");
+    }
+
     private static void atMost40() {
         String sentence = "At most 40 records are there that aren't REMOVED";
         String[] events = {"", "1", "1 2", "1 2 3", "1 2 3 4"};
@@ -169,6 +179,9 @@ public final class TermsTest {
         Story.tell("For an EVENT (HIDDEN ones too) the program runs: and EMITs",
             "define(0: VALUE, EMIT 9) -> OK; put(0, 0: 5); cut(0, 1); work(0, 1) -> 1; read(1, 0) -> 2",
             "found(3) -> 5");
+        Story.tell("(No instruction runs twice for one event.)",
+            "define(0: VALUE, ZERO 2, PUSH 1, EMIT 8, CELL 1, PUSH 1, ADD, SET 1) -> OK; put(0, 0: 0 5)",
+            "work(0, 2) -> 2", "version(1) -> 2; cell(0, 0, 1) -> 2");
         Story.tell("Else its position is one more",
             "define(0: END) -> OK; put(0, 0: 5 6); position(0) -> 0; work(0, 1) -> 1", "position(0) -> 1",
             "work(0, 1) -> 1; position(0) -> 2; work(0, 1) -> 0; position(0) -> 2");
@@ -302,7 +315,8 @@ public final class TermsTest {
             "work(#, 1); note(#) -> 3; flush(); size(3) -> 3; put(0, 0: 4); flush(); size(3) -> 3; drop(#)",
             "size(3) -> 4");
         Story.tell("the KEPT positions of all projections that have programs: a draft is none",
-            "put(0, 0: 1); flush(); code(END, 0); size(3) -> 1; define(0) -> OK; put(0, 0: 2); flush(); size(3) -> 1");
+            "put(0, 0: 1); flush(); code(END, 0); size(3) -> 1; define(0) -> OK; put(0, 0: 2); flush()",
+            "size(3) -> 1");
         Story.tell("LOW is the least: of three projections and two groups",
             "put(0, 0: 1); flush(); define(1: END); put(0, 0: 2); flush(); form(1, 8); put(0, 0: 3); flush()",
             "define(0: END)", "put(0, 0: 4); flush(); form(0, 8); put(0, 0: 5); flush(); define(2: END)",
@@ -327,5 +341,27 @@ public final class TermsTest {
             + " passed over",
             "form(0, 8); put(0, 0: 1 2); take(0); answer(0, 0, false); cut(0, 2); flush(); size(3) -> 0",
             "take(0) -> NONE", "size(3) -> 0; flush(); size(3) -> 3");
+    }
+
+    private static void orderOfTests() {
+        String sentence = "Calls make their tests in the order in which they are named";
+        Story.tell(sentence + ": append, BAD and CONFLICT", "append(0, 3) -> BAD; append(5, 3) -> BAD; event(0, 1)",
+            "append(5, 3) -> BAD; append(-1, 3) -> BAD; append(0, 3) -> CONFLICT; append(0, -1) -> 0");
+        Story.tell(sentence + ": append, then FULL",
+            "fill(40); append(0, 3) -> BAD; append(5, -2) -> BAD; event(0, 1)", "append(5, 3) -> BAD",
+            "append(0, 3) -> CONFLICT; append(0, 39) -> FULL; append(0, -2) -> FULL");
+        Story.tell(sentence + ": cut",
+            "fill(40); cut(5, 0) -> BAD; cut(0, -1) -> BAD; cut(0, 41) -> BAD; cut(0, 40) -> FULL");
+        Story.tell(sentence + ": define", "define(3) -> BAD; define(0) -> BAD; code(ADD, 0); define(3) -> BAD",
+            "define(-1) -> BAD; define(0) -> FAULTY+0");
+        Story.tell(sentence + ": drop, note, position",
+            "drop(3) -> BAD; note(3) -> BAD; position(3) -> BAD; drop(-1) -> BAD", "note(-1) -> BAD",
+            "position(-1) -> BAD; drop(2) -> NONE; note(2) -> NONE; position(2) -> NONE");
+        Story.tell(sentence + ": work", "work(3, 0) -> BAD; work(3, 1) -> BAD; work(0, 0) -> BAD; work(0, 21) -> BAD",
+            "work(0, 20) -> NONE; define(0: VALUE, EMIT 8); fill(40); work(0, 0) -> BAD; work(0, 21) -> BAD",
+            "work(0, 1) -> FULL; drop(0); work(0, 1) -> NONE");
+        Story.tell(sentence + ": take",
+            "take(2) -> BAD; take(-1) -> BAD; take(0) -> NONE; form(0, 8); take(0) -> NONE", "fill(6); 6 * take(0)",
+            "take(2) -> BAD; take(1) -> NONE; take(0) -> FULL; answer(0, 0, true); take(0) -> NONE");
     }
 }
