@@ -71,10 +71,6 @@ final class Story {
         return answers;
     }
 
-    int calls() {
-        return calls;
-    }
-
     private long call(Step step) {
         calls++;
         try {
