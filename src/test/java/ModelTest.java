@@ -1,9 +1,6 @@
-import java.lang.reflect.Method;
-import java.util.ArrayList;
-import java.util.HashMap;
-import java.util.List;
-import java.util.Map;
+import java.util.HashSet;
 import java.util.Random;
+import java.util.Set;
 
 /** Runs of up to 512 calls, drawn with fixed seeds, on EventStore and on Model: each answer must be the same. */
 public final class ModelTest {
@@ -20,12 +17,18 @@ public final class ModelTest {
     };
     private static final String LOOKS = "position cell group group read next found found total version size size";
 
-    private final Map<String, Method> ofStore = methods(EventStore.class);
-    private final Map<String, Method> ofModel = methods(Model.class);
+    /** The kinds of answers that each call must have given in the runs: what the document names, 0 and more. */
+    private static final String KINDS = """
+        event 0 more, append BAD CONFLICT FULL 0 more, cut BAD FULL 0 more, flush 0 more, crash BAD 0 more,
+        scavenge 0 more, code 0 more, define BAD 0 more, drop BAD NONE 0, work BAD NONE FULL 0 more,
+        note BAD NONE 0 more, position BAD NONE 0 more, cell 0 more, form BAD 0 more, take BAD NONE FULL 0 more,
+        answer 0 more, tick BAD 0 more, group BAD 0 more, read NONE 0 more, next NONE 0 more, found 0 more,
+        total 0 more, version BAD 0 more, size BAD 0 more""";
+    private static final String[] REFUSALS = {"BAD", "CONFLICT", "FULL", "NONE"};
+    private static final Set<String> SEEN = new HashSet<>();
+
     private final Random random;
-    private final EventStore store = new EventStore();
-    private final Model model = new Model();
-    private final List<String> told = new ArrayList<>();
+    private final Twin twin = new Twin();
     private final int crashOneIn;
 
     private ModelTest(long seed) {
@@ -33,27 +36,23 @@ public final class ModelTest {
         crashOneIn = 1 + random.nextInt(12);
     }
 
-    public static void main(String[] args) throws ReflectiveOperationException {
+    public static void main(String[] args) {
         for (int seed = 0; seed < RUNS && Due.allWell(); seed++) {
             new ModelTest(seed).run();
+        }
+        for (String kinds : KINDS.split(",")) {
+            String[] words = kinds.strip().split(" ");
+            for (int i = 1; i < words.length; i++) {
+                Due.yes("some " + words[0] + " answered " + words[i], SEEN.contains(words[0] + " " + words[i]));
+            }
         }
         Due.end();
     }
 
-    private static Map<String, Method> methods(Class<?> type) {
-        Map<String, Method> byName = new HashMap<>();
-        for (Method m : type.getMethods()) {
-            if (m.getDeclaringClass() == type) {
-                byName.put(m.getName(), m);
-            }
-        }
-        return byName;
-    }
-
-    private void run() throws ReflectiveOperationException {
+    private void run() {
         String[] changes = MIX[random.nextInt(MIX.length)].split(" ");
         String[] looks = LOOKS.split(" ");
-        while (told.size() < CALLS && Due.allWell()) {
+        while (twin.calls() < CALLS && Due.allWell()) {
             boolean change = random.nextInt(5) < 3;
             String name = change ? changes[random.nextInt(changes.length)] : looks[random.nextInt(looks.length)];
             if (name.equals("program")) {
@@ -63,21 +62,14 @@ public final class ModelTest {
             }
         }
         if (!Due.allWell()) {
-            told.forEach(System.out::println);
+            twin.print();
         }
     }
 
-    private long call(String name, Object... arguments) throws ReflectiveOperationException {
-        long want = number(ofModel.get(name).invoke(model, arguments));
-        long got = number(ofStore.get(name).invoke(store, arguments));
-        String call = name + List.of(arguments);
-        told.add(call + " " + got);
-        Due.is(call, want, got);
-        return got;
-    }
-
-    private static long number(Object answer) {
-        return answer instanceof Boolean b ? (b ? 1 : 0) : ((Number) answer).longValue();
+    private void call(String name, Object... arguments) {
+        long got = twin.call(name, arguments);
+        boolean refused = got < 0 && got >= -REFUSALS.length;
+        SEEN.add(name + " " + (refused ? REFUSALS[(int) (-1 - got)] : got == 0 ? "0" : "more"));
     }
 
     /** Mostly a number of the range, sometimes one beside it or far away. */
@@ -97,7 +89,7 @@ public final class ModelTest {
 
     /** A position, mostly near the end of the log. */
     private int place() {
-        int end = model.size(0);
+        int end = twin.model().size(0);
         return from(Math.max(0, end - 1 - random.nextInt(50)), end);
     }
 
@@ -111,7 +103,7 @@ public final class ModelTest {
     }
 
     private int versionOf(int s) {
-        int events = Math.max(0, model.version(s));
+        int events = Math.max(0, twin.model().version(s));
         return from(Math.max(0, events - 6), events);
     }
 
@@ -161,7 +153,7 @@ public final class ModelTest {
     }
 
     /** Drafts a program that is mostly without fault, and defines it. */
-    private void program() throws ReflectiveOperationException {
+    private void program() {
         int length = random.nextInt(20) == 0 ? 15 : 1 + random.nextInt(12);
         boolean wild = random.nextInt(6) == 0;
         int height = 0;

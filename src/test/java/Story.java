@@ -21,11 +21,11 @@ final class Story {
         Map.entry("OK", 0L), Map.entry("BAD", -1L), Map.entry("CONFLICT", -2L), Map.entry("FULL", -3L),
         Map.entry("NONE", -4L), Map.entry("FAULTY", 100L), Map.entry("true", 1L), Map.entry("false", 0L),
         Map.entry("MIN", (long) Integer.MIN_VALUE), Map.entry("MAX", (long) Integer.MAX_VALUE));
-    private static final Map<String, Method> METHODS = methods();
+    private static final Map<String, Method> METHODS = methods(EventStore.class);
     private static final int CALLS_MAX = 512;
 
     /** One call; want is empty where the answer is not looked at. */
-    private record Step(String text, Method method, Object[] arguments, String want) {
+    record Step(String text, Method method, Object[] arguments, String want) {
     }
 
     private static final Map<String, List<Step>> KNOWN = new HashMap<>();
@@ -33,10 +33,13 @@ final class Story {
     private final EventStore store = new EventStore();
     private int calls = 0;
 
-    private static Map<String, Method> methods() {
+    /** The public methods of a class by their names. */
+    static Map<String, Method> methods(Class<?> type) {
         Map<String, Method> byName = new HashMap<>();
-        for (Method m : EventStore.class.getDeclaredMethods()) {
-            byName.put(m.getName(), m);
+        for (Method m : type.getMethods()) {
+            if (m.getDeclaringClass() == type) {
+                byName.put(m.getName(), m);
+            }
         }
         return byName;
     }
@@ -56,7 +59,7 @@ final class Story {
     /** Makes the calls of a run; answers what each of them answered. */
     List<Long> goOn(String sentence, String run) {
         List<Long> answers = new ArrayList<>();
-        List<Step> steps = KNOWN.computeIfAbsent(run, Story::steps);
+        List<Step> steps = steps(run);
         for (int i = 0; i < steps.size(); i++) {
             Step step = steps.get(i);
             long got = call(step);
@@ -74,14 +77,18 @@ final class Story {
     private long call(Step step) {
         calls++;
         try {
-            Object answer = step.method.invoke(store, step.arguments);
-            return answer instanceof Boolean b ? (b ? 1 : 0) : ((Number) answer).longValue();
+            return number(step.method.invoke(store, step.arguments));
         } catch (ReflectiveOperationException e) {
             throw new IllegalStateException(step.text, e);
         }
     }
 
-    private static List<Step> steps(String run) {
+    /** The calls of a run that is told in text. */
+    static List<Step> steps(String run) {
+        return KNOWN.computeIfAbsent(run, Story::parsed);
+    }
+
+    private static List<Step> parsed(String run) {
         List<Step> steps = new ArrayList<>();
         for (String statement : run.split("[;\n]")) {
             if (!statement.isBlank()) {
@@ -147,6 +154,11 @@ final class Story {
             arguments[i] = isFlag ? (Object) (value == 1) : (Object) (int) value;
         }
         steps.add(new Step(name + "(" + inside + ")", method, arguments, want));
+    }
+
+    /** An answer as a number: a boolean counts 1 or 0. */
+    static long number(Object answer) {
+        return answer instanceof Boolean b ? (b ? 1 : 0) : ((Number) answer).longValue();
     }
 
     private static long number(String word) {
